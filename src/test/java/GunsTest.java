@@ -86,17 +86,8 @@ public final class GunsTest {
         due("taken back", x.of(1, 7), HairLine.NONE);
     }
 
-    private static HairLine withHairs(int... hairs) {
-        HairLine x = new HairLine();
-        for (int lane = 0; lane < hairs.length; lane++) {
-            x.runner(-hairs[lane], 1);
-            x.shape(lane, lane, 0, 0, 0);
-        }
-        return x;
-    }
-
     private static void mended() {
-        HairLine x = withHairs(50, 51, 52, 62, 300, 60);
+        HairLine x = Scenes.withHairs(50, 51, 52, 62, 300, 60);
         // less 0, 3, 6, 9, -, 15: 50, 48, 46, 53, -, 45
         int[] want = {5, 2, 1, 0, 3};
         for (int i = 0; i < want.length; i++) {
@@ -118,7 +109,7 @@ public final class GunsTest {
     }
 
     private static void mendedLikeKeys() {
-        HairLine x = withHairs(0, 3, 5, 9, 12);
+        HairLine x = Scenes.withHairs(0, 3, 5, 9, 12);
         // 0, 0, -1, 0, 0
         int[] want = {2, 0, 1, 3, 4};
         for (int i = 0; i < want.length; i++) {

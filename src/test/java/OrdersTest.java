@@ -22,18 +22,8 @@ public final class OrdersTest {
         CHECK.due(call, got, want);
     }
 
-    /** A RUNNER for each hair, each in a ROW of its own. */
-    private static HairLine withHairs(int... hairs) {
-        HairLine x = new HairLine();
-        for (int lane = 0; lane < hairs.length; lane++) {
-            x.runner(-hairs[lane], 1);
-            x.shape(lane, lane, 0, 0, 0);
-        }
-        return x;
-    }
-
     private static void order() {
-        HairLine x = withHairs(50, 40, 50, 30, 300, 40);
+        HairLine x = Scenes.withHairs(50, 40, 50, 30, 300, 40);
         int[] want = {3, 1, 5, 0, 2};
         due("how many", x.order(-1), 5);
         for (int i = 0; i < want.length; i++) {
@@ -67,7 +57,7 @@ public final class OrdersTest {
     }
 
     private static void places() {
-        HairLine x = withHairs(10, 12, 14, 14, 17, 30);
+        HairLine x = Scenes.withHairs(10, 12, 14, 14, 17, 30);
         int[] apart = {1, 2, 3, 3, 5, 6};
         int[] chained = {1, 1, 1, 1, 5, 6};
         int[] byFirst = {1, 1, 3, 3, 5, 6};
@@ -90,7 +80,7 @@ public final class OrdersTest {
 
     private static void placesApart() {
         // lanes against the order, and a new place's first one counts anew
-        HairLine x = withHairs(29, 26, 23, 20, 17, 14);
+        HairLine x = Scenes.withHairs(29, 26, 23, 20, 17, 14);
         x.set(1, 3);
         int[] byFirst = {5, 5, 3, 3, 1, 1};
         for (int lane = 0; lane < 6; lane++) {
@@ -100,8 +90,9 @@ public final class OrdersTest {
     }
 
     private static void placeWrong() {
-        HairLine x = withHairs(10);
+        HairLine x = Scenes.withHairs(10);
         x.runner(-20, 1);
+        due("in order", x.place(0, 0), 1);
         due("not in order", x.place(1, 0), HairLine.NONE);
         due("not in order, rule 1", x.place(1, 1), HairLine.NONE);
         due("rule 2", x.place(0, 2), HairLine.OUTSIDE);
@@ -110,6 +101,8 @@ public final class OrdersTest {
         due("runner 2", x.place(2, 0), HairLine.UNKNOWN);
         due("runner -1, rule 2", x.place(-1, 2), HairLine.UNKNOWN);
         due("MAX", x.place(MAX, MAX), HairLine.UNKNOWN);
+        x.shape(0, 0, 0, 1, 0);
+        due("no more in order", x.place(0, 0), HairLine.NONE);
     }
 
     private static void stretch() {

@@ -26,14 +26,8 @@ public final class RecordsTest {
 
     private static HairLine saying(String text) {
         HairLine x = new HairLine();
-        sayAll(x, text);
+        Scenes.sayAll(x, text);
         return x;
-    }
-
-    private static void sayAll(HairLine x, String text) {
-        for (int i = 0; i < text.length(); i++) {
-            x.say(text.charAt(i));
-        }
     }
 
     private static HairLine ruled(String text) {
@@ -62,14 +56,14 @@ public final class RecordsTest {
     private static void wipe() {
         HairLine x = new HairLine();
         due("nothing", x.wipe(), 0);
-        sayAll(x, "t<5");
+        Scenes.sayAll(x, "t<5");
         due("three", x.wipe(), 3);
         due("none is left", x.told(2), 0);
         due("nothing again", x.wipe(), 0);
         due("fault of nothing", x.fault(), 0);
-        sayAll(x, "e=0");
+        Scenes.sayAll(x, "e=0");
         due("a rule", x.rule(), 1);
-        sayAll(x, "w");
+        Scenes.sayAll(x, "w");
         due("one", x.wipe(), 1);
         due("the rule stays", x.told(3), 1);
         due("and holds", x.record(0, 0, 0, 1), 0);
@@ -121,7 +115,7 @@ public final class RecordsTest {
         due("signs are empty", x.told(2), 0);
         due("told", x.told(3), 2);
         due("the next sign is the first", x.say('e'), 1);
-        sayAll(x, "=0");
+        Scenes.sayAll(x, "=0");
         due("one line in its stead", x.rule(), 1);
         due("told", x.told(3), 1);
         due("the new one", x.record(9999, 9999, 0, 0), NONE);
@@ -132,7 +126,7 @@ public final class RecordsTest {
         HairLine x = ruled("t<100");
         due("nothing said", x.rule(), HairLine.NO);
         due("it stays", x.told(3), 1);
-        sayAll(x, "t>");
+        Scenes.sayAll(x, "t>");
         due("a fault", x.rule(), HairLine.NO);
         due("signs stay", x.told(2), 2);
         due("fault", x.fault(), 2);
@@ -175,7 +169,7 @@ public final class RecordsTest {
         due("-12", ruled("w=-12").record(0, -12, 0, 0), NONE);
         due("-12 is not 12", ruled("w=-12").record(0, 12, 0, 0), 0);
         HairLine x = ruled("w=-12");
-        sayAll(x, "w=12");
+        Scenes.sayAll(x, "w=12");
         x.rule();
         due("no minus is left over", x.record(0, 12, 0, 0), NONE);
     }
@@ -188,7 +182,7 @@ public final class RecordsTest {
         }
         due("the seventh", x.record(66, 0, 0, 0), 6);
         due("all are so", x.record(67, 0, 0, 0), NONE);
-        sayAll(x, "t>0;t>1;t>2;t>3;t>4;t>5;t>-666");
+        Scenes.sayAll(x, "t>0;t>1;t>2;t>3;t>4;t>5;t>-666");
         due("30 signs", x.told(2), 30);
         due("seven lines again", x.rule(), 7);
         due("so", x.record(6, 0, 0, 0), NONE);
@@ -205,7 +199,7 @@ public final class RecordsTest {
             }
         }
         due("no rule", x.record(-9999, 9999, -9999, 9999), HairLine.STATE);
-        sayAll(x, "t<0");
+        Scenes.sayAll(x, "t<0");
         due("signs are no rule", x.record(-1, 0, 0, 0), HairLine.STATE);
         x.rule();
         due("a rule", x.record(-9999, 9999, 9999, 9999), NONE);

@@ -20,6 +20,7 @@ public final class RunnersTest {
         hidden();
         ofWrong();
         moved();
+        movedOfSix();
         CHECK.end();
     }
 
@@ -280,6 +281,11 @@ public final class RunnersTest {
         due("28 by 7, just", x.of(0, 3), 4);
         x.shape(0, 1, 0, -2, 1);
         due("29 by 7", x.of(0, 3), 5);
+        for (int row = 0; row < 6; row++) {
+            x.shape(0, row, 1, -9, 9);
+        }
+        due("limbs do not count", x.of(0, 3), 5);
+        due("limbs do not count", x.of(0, 4), 5);
     }
 
     private static void beyondTheFilm() {
@@ -364,5 +370,20 @@ public final class RunnersTest {
         due("lean -1 second", x.moved(1), 13);
         x.shape(1, 5, 0, 1, 0);
         due("without its torso", x.moved(-1), 0);
+    }
+
+    private static void movedOfSix() {
+        HairLine x = Scenes.withHairs(20, 20, 20, 20, 20, 20);
+        due("upright none", x.moved(-1), 0);
+        x.set(0, 3);
+        due("each pair", x.moved(-1), 15);
+        int i = 0;
+        for (int lane = 0; lane < 6; lane++) {
+            for (int other = lane + 1; other < 6; other++) {
+                due("moved(" + i + ")", x.moved(i), 10 * lane + other);
+                i++;
+            }
+        }
+        due("no more", x.moved(15), HairLine.NONE);
     }
 }

@@ -158,14 +158,9 @@ public final class SlitsTest {
         due("what -1", x.seen(0, -1), HairLine.OUTSIDE);
     }
 
-    /** Six RUNNERS, each in a ROW of its own, so that a SLIT sees just those of its ROWS. */
+    /** Alike, and each in a ROW of its own: a SLIT sees just those of its ROWS. */
     private static HairLine sixInRows() {
-        HairLine x = new HairLine();
-        for (int lane = 0; lane < 6; lane++) {
-            x.runner(-20, 1);
-            x.shape(lane, lane, 0, 0, 0);
-        }
-        return x;
+        return Scenes.withHairs(20, 20, 20, 20, 20, 20);
     }
 
     private static void best() {
@@ -206,6 +201,11 @@ public final class SlitsTest {
         y.slit(0, 2);
         y.slit(0, 3);
         due("one rather than two, though its bits are more", y.best(2, 0), 4);
+        HairLine first = sixInRows();
+        first.slit(0, 3);
+        first.slit(0, 3);
+        due("the first alone", first.best(8, 0), 1);
+        due("the first alone", first.best(8, 1), 14);
         HairLine z = sixInRows();
         z.slit(0, 1);
         z.slit(0, 2);
@@ -235,10 +235,7 @@ public final class SlitsTest {
         x.slit(0, 1);
         x.slit(0, 1);
         x.slit(0, 1);
-        String text = "t<1;w<1;h<1;e<1";
-        for (int i = 0; i < text.length(); i++) {
-            x.say(text.charAt(i));
-        }
+        Scenes.sayAll(x, "t<1;w<1;h<1;e<1");
         due("told(2)", x.told(2), 15);
         x.rule();
         x.say('t');

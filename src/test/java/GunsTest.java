@@ -148,11 +148,11 @@ public final class GunsTest {
     }
 
     private static void wrongOfMany() {
-        HairLine x = new HairLine();
         int[] ears = {0, 1, 50, 100, 137, 199, 200};
         for (int ear : ears) {
-            x.set(2, ear);
             for (int from = 0; from <= 200; from += 23) {
+                HairLine x = new HairLine();
+                x.set(2, ear);
                 for (int to = from; to <= 200; to += 7) {
                     int n = 1 + (from + to) % 6;
                     BigInteger[] want = counted(from, to, n, ear);

@@ -172,8 +172,8 @@ public final class OrdersTest {
 
     /** Each one counted out: a limb that begins far ahead of the slit, at each of so many beginnings. */
     private static void speedsOfAll() {
-        HairLine x = new HairLine();
         for (int length = 1; length <= 19; length++) {
+            HairLine x = new HairLine();
             for (int columns = 0; columns <= 30; columns++) {
                 int least = HairLine.NONE;
                 int greatest = HairLine.NONE;

@@ -90,7 +90,7 @@ public final class PlainTest {
     }
 
     private int lane() {
-        int runners = x.told(0);
+        int runners = plain.told(0);
         return random.nextInt(40) == 0 ? number(0, 5) : number(0, Math.max(0, runners - 1));
     }
 
@@ -293,7 +293,7 @@ public final class PlainTest {
                 tell(told, which, a, b);
                 return both(x.slit(a, b), plain.slit(a, b));
             case 24:
-                a = number(0, (1 << x.told(1)) - 1);
+                a = number(0, (1 << plain.told(1)) - 1);
                 b = number(0, 1);
                 tell(told, which, a, b);
                 return both(x.seen(a, b), plain.seen(a, b));

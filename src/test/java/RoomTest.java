@@ -5,7 +5,8 @@ import java.lang.management.ManagementFactory;
 public final class RoomTest {
     private static final Check CHECK = new Check("room");
     private static final int OBJECTS = 2000;
-    private static final int ROUNDS = 2000;
+    /** So many of one object are fewer than 512 calls. */
+    private static final int ROUNDS = 10;
 
     public static void main(String[] args) {
         ThreadMXBean threads = (ThreadMXBean) ManagementFactory.getThreadMXBean();
@@ -17,15 +18,14 @@ public final class RoomTest {
         long each = (threads.getCurrentThreadAllocatedBytes() - before) / OBJECTS;
         CHECK.isTrue("an object takes " + each + " bytes", each < 4000);
 
-        HairLine x = kept[0];
-        long sum = round(x, 0);
+        long sum = round(new HairLine(), 0);
         before = threads.getCurrentThreadAllocatedBytes();
-        for (int i = 0; i < ROUNDS; i++) {
-            sum += round(x, i);
+        for (int i = 0; i < OBJECTS * ROUNDS; i++) {
+            sum += round(kept[i / ROUNDS], i);
         }
         long made = threads.getCurrentThreadAllocatedBytes() - before;
         // a little is the measure's own
-        CHECK.isTrue("calls made " + made + " bytes, sum " + sum, made < ROUNDS);
+        CHECK.isTrue("calls made " + made + " bytes, sum " + sum, made < OBJECTS);
         CHECK.end();
     }
 

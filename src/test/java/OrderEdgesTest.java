@@ -24,6 +24,7 @@ public final class OrderEdgesTest {
         speedsOfNoColumn();
         speedsWhereItBegins();
         speedsNone();
+        speedsUpright();
         CHECK.end();
     }
 
@@ -271,5 +272,15 @@ public final class OrderEdgesTest {
         due("between 1 and 2 a column", x.speeds(19, 18, 0), NONE);
         due("between 1 and 2 a column", x.speeds(19, 11, 1), NONE);
         due("at 2 a column", x.speeds(18, 10, 0), NONE);
+    }
+
+    /** "an upright slit": whatever LEAN is, and whoever runs. */
+    private static void speedsUpright() {
+        HairLine x = Scenes.FULL.play();
+        for (int lean = -3; lean <= 3; lean++) {
+            x.set(0, lean);
+            due("least at lean " + lean, x.speeds(9, 3, 0), 3);
+            due("greatest at lean " + lean, x.speeds(9, 3, 1), 4);
+        }
     }
 }

@@ -33,20 +33,14 @@ public final class RecordEdgesTest {
         CHECK.due(call, got, want);
     }
 
-    private static HairLine saying(String text) {
-        HairLine x = new HairLine();
-        Scenes.sayAll(x, text);
-        return x;
-    }
-
     private static HairLine ruled(String text) {
-        HairLine x = saying(text);
+        HairLine x = Scenes.saying(text);
         CHECK.isTrue(text + " is a rule", x.rule() > 0);
         return x;
     }
 
     private static void faultIs(String text, int want) {
-        HairLine x = saying(text);
+        HairLine x = Scenes.saying(text);
         due("fault of " + text, x.fault(), want);
         due("it is asked again", x.fault(), want);
         due("signs stay", x.told(2), text.length());
@@ -77,11 +71,11 @@ public final class RecordEdgesTest {
     }
 
     private static void roomAgain() {
-        HairLine x = saying(SEVEN + "666");
+        HairLine x = Scenes.saying(SEVEN + "666");
         due("full", x.say('t'), HairLine.FULL);
         due("wiped", x.wipe(), 30);
         due("room again", x.say('t'), 1);
-        HairLine y = saying(SEVEN + "666");
+        HairLine y = Scenes.saying(SEVEN + "666");
         due("a rule of 30 signs", y.rule(), 7);
         due("room again", y.say('t'), 1);
     }
@@ -102,7 +96,7 @@ public final class RecordEdgesTest {
     /** "one or more LINES": of no signs more must come. */
     private static void faultOfNothing() {
         due("nothing said", new HairLine().fault(), 0);
-        HairLine x = saying("t<5");
+        HairLine x = Scenes.saying("t<5");
         due("no fault", x.fault(), NONE);
         x.wipe();
         due("nothing any more", x.fault(), 0);
@@ -120,7 +114,7 @@ public final class RecordEdgesTest {
         faultIs("t<5;q", 4);
         faultIs("t<5;w<q", 6);
         faultIs("tq<5;;", 1);
-        faultIs("t<5 ".trim() + "!", 3);
+        faultIs("t<5!", 3);
         faultIs("T<5", 0);
         faultIs("5", 0);
         faultIs(";", 0);
@@ -211,7 +205,7 @@ public final class RecordEdgesTest {
 
     /** "The RULE is the signs' (they are empty then): LINES." */
     private static void ruleEmptiesTheSigns() {
-        HairLine x = saying("t<5;w>-3");
+        HairLine x = Scenes.saying("t<5;w>-3");
         due("lines", x.rule(), 2);
         due("empty", x.told(2), 0);
         due("empty", x.fault(), 0);
@@ -239,12 +233,12 @@ public final class RecordEdgesTest {
 
     /** "one or more LINES": 30 signs have room for seven. */
     private static void fewestAndMostLines() {
-        due("one", saying("e=0").rule(), 1);
-        due("two", saying("e=0;t<1").rule(), 2);
-        due("seven", saying(SEVEN).rule(), 7);
-        due("seven of 30 signs", saying(SEVEN + "000").rule(), 7);
-        due("six of 30 signs", saying("t<1;t<1;t<1;t<1;t<-123;t<-1234").rule(), 6);
-        due("four long ones", saying("t<-1234;w>-9999;h=9999;e=0").rule(), 4);
+        due("one", Scenes.saying("e=0").rule(), 1);
+        due("two", Scenes.saying("e=0;t<1").rule(), 2);
+        due("seven", Scenes.saying(SEVEN).rule(), 7);
+        due("seven of 30 signs", Scenes.saying(SEVEN + "000").rule(), 7);
+        due("six of 30 signs", Scenes.saying("t<1;t<1;t<1;t<1;t<-123;t<-1234").rule(), 6);
+        due("four long ones", Scenes.saying("t<-1234;w>-9999;h=9999;e=0").rule(), 4);
     }
 
     /** "STATE: no RULE; OUTSIDE (ahead)". */

@@ -24,14 +24,8 @@ public final class RecordsTest {
         CHECK.due(call, got, want);
     }
 
-    private static HairLine saying(String text) {
-        HairLine x = new HairLine();
-        Scenes.sayAll(x, text);
-        return x;
-    }
-
     private static HairLine ruled(String text) {
-        HairLine x = saying(text);
+        HairLine x = Scenes.saying(text);
         x.rule();
         return x;
     }
@@ -83,7 +77,7 @@ public final class RecordsTest {
         };
         for (Object[] w : want) {
             String text = (String) w[0];
-            HairLine x = saying(text);
+            HairLine x = Scenes.saying(text);
             int said = x.told(2);
             int fault = (Integer) w[1];
             due("fault of " + text, x.fault(), fault);
@@ -99,7 +93,7 @@ public final class RecordsTest {
             "twhe", "0123456789;"};
         for (int i = 0; i < heads.length; i++) {
             for (int sign = 33; sign <= 126; sign++) {
-                HairLine x = saying(heads[i]);
+                HairLine x = Scenes.saying(heads[i]);
                 x.say(sign);
                 boolean stands = fit[i].indexOf(sign) >= 0;
                 boolean first = x.fault() == heads[i].length();
@@ -109,7 +103,7 @@ public final class RecordsTest {
     }
 
     private static void rule() {
-        HairLine x = saying("t<100;w<21");
+        HairLine x = Scenes.saying("t<100;w<21");
         due("no lines yet", x.told(3), 0);
         due("two lines", x.rule(), 2);
         due("signs are empty", x.told(2), 0);
@@ -175,7 +169,7 @@ public final class RecordsTest {
     }
 
     private static void manyLines() {
-        HairLine x = saying("t>0;t>1;t>2;t>3;t>4;t>5;t>66");
+        HairLine x = Scenes.saying("t>0;t>1;t>2;t>3;t>4;t>5;t>66");
         due("seven lines", x.rule(), 7);
         for (int t = 0; t <= 5; t++) {
             due("first that is not so", x.record(t, 0, 0, 0), t);

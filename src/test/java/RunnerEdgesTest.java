@@ -32,6 +32,7 @@ public final class RunnerEdgesTest {
         hiddenWithoutATorso();
         movedByEachChange();
         movedWithTorsosAlone();
+        movedByLeanedNotByHairs();
         movedNumbers();
         setTellsWhatWas();
         refusedFirst();
@@ -375,10 +376,13 @@ public final class RunnerEdgesTest {
         due("one beyond", one(-22, 10, 0, -5, 3).of(0, 3), 2);
         HairLine x = one(-40, 10, 1, -5, -1);
         due("-1 by 10", x.of(0, 3), 5);
+        for (int row = 0; row < 6; row++) {
+            x.shape(0, row, LIMB, 9, 9);
+        }
+        due("not by a limb", x.of(0, 3), 5);
+        due("nor leaned", x.of(0, 4), 5);
         x.shape(0, 4, TORSO, -5, 0);
         due("in some row", x.of(0, 3), 4);
-        x.shape(0, 5, LIMB, 9, 9);
-        due("not by a limb", x.of(0, 3), 4);
         for (int lean = -3; lean <= 3; lean++) {
             x.set(0, lean);
             due("upright at lean " + lean, x.of(0, 3), 4);
@@ -496,6 +500,29 @@ public final class RunnerEdgesTest {
         due("a torso", x.moved(-1), 1);
         x.shape(0, 0, TORSO, 1, 0);
         due("the other's is gone", x.moved(-1), 0);
+    }
+
+    private static void movedByLeanedNotByHairs() {
+        HairLine x = one(-20, 1, 0, -2, 2);
+        x.runner(-20, 1);
+        x.shape(1, 0, TORSO, -5, 2);
+        x.runner(-20, 1);
+        x.shape(2, 0, TORSO, -2, 2);
+        due("the one between shows late", x.of(1, 2), 23);
+        due("alike by true and by leaned", x.moved(-1), 0);
+        x.set(0, 3);
+        due("row 0 does not lean", x.moved(-1), 0);
+        x.shape(1, 5, TORSO, 0, 3);
+        x.set(0, -1);
+        // true 17, leaned 12, against 18 of both others: ahead as before
+        due("ahead by both", x.moved(-1), 0);
+        x.set(0, 1);
+        // leaned 18, by row 0, where it shows in no side's first column
+        due("leaned", x.of(1, 4), 18);
+        due("joined", x.of(1, 2), 22);
+        due("alike now", x.moved(-1), 2);
+        due("with lane 0", x.moved(0), 1);
+        due("with lane 2", x.moved(1), 12);
     }
 
     /** "how many (i = -1), the i-th: 10 times the lesser, and the other; NONE." */

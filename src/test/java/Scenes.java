@@ -20,6 +20,12 @@ final class Scenes {
         return x;
     }
 
+    static HairLine saying(String text) {
+        HairLine x = new HairLine();
+        sayAll(x, text);
+        return x;
+    }
+
     static void sayAll(HairLine x, String text) {
         for (int i = 0; i < text.length(); i++) {
             x.say(text.charAt(i));

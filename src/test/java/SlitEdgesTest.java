@@ -142,6 +142,12 @@ public final class SlitEdgesTest {
         due("one of the two is enough", x.seen(5, 0), 2);
         x.shape(0, 0, LIMB, 1, 1);
         due("hidden one later", x.seen(1, 0), 2);
+        x.shape(0, 0, LIMB, 2, 2);
+        x.runner(-20, 1);
+        x.shape(2, 0, LIMB, 2, 2);
+        due("hidden from both sides", x.of(1, 2), 19);
+        due("seen in the next column is not seen", x.seen(5, 0), 0);
+        due("in no row of any side", x.seen(7, 0), 0);
     }
 
     private static void seenAtTheFilmsEnds() {
@@ -186,7 +192,9 @@ public final class SlitEdgesTest {
         x.slit(0, 63);
         for (int lane = 0; lane < 6; lane++) {
             x.runner(-20, 1);
-            x.shape(lane, lane, LIMB, 0, 0);
+            for (int row = 0; row < 6; row++) {
+                x.shape(lane, row, LIMB, 0, 0);
+            }
         }
         due("limbs are not seen", x.seen(1, 0), 0);
         due("no pairs", x.seen(0, 1), 0);
@@ -194,7 +202,6 @@ public final class SlitEdgesTest {
         for (int lane = 0; lane < 6; lane++) {
             x.shape(lane, lane, TORSO, 0, 0);
             due("torsos: " + (lane + 1), x.seen(0, 1), pairs[lane]);
-            due("all seen", x.seen(1, 1), 0);
         }
     }
 

@@ -65,6 +65,7 @@ public final class GunEdgesTest {
         due("one again", x.of(5, 6), 15);
     }
 
+    /** "another one at the last lane": the last of those that are there by now. */
     private static void lastLaneGoesOn() {
         HairLine x = lanes(1);
         x.set(3, 1);
@@ -164,6 +165,7 @@ public final class GunEdgesTest {
         due("column 300", y.mended(1), NONE);
     }
 
+    /** "the i-th RUNNER; NONE": of six there is no seventh. */
     private static void mendedOfSix() {
         HairLine x = Scenes.withHairs(20, 22, 24, 26, 28, 30);
         // less 3 each: 20, 19, 18, 17, 16, 15
@@ -184,6 +186,7 @@ public final class GunEdgesTest {
         }
     }
 
+    /** "MENDED: ORDER by JOINED less HEARS": alike ones by lanes, as in ORDER. */
     private static void mendedLanes() {
         HairLine x = Scenes.withHairs(20, 23, 26, 29, 32, 35);
         for (int i = 0; i < 6; i++) {
@@ -210,6 +213,7 @@ public final class GunEdgesTest {
         }
     }
 
+    /** "that one who waits for the gun is called EARLY; of n .. that some one is". */
     private static void wrongOfOneEar() {
         HairLine x = new HairLine();
         for (int n = 1; n <= 6; n++) {
@@ -222,6 +226,7 @@ public final class GunEdgesTest {
         odds("some one of six", x, 99, 100, 6, 63, 64);
     }
 
+    /** "the odds": from 0 to 1, which are fractions, too. */
     private static void wrongSureAndNever() {
         HairLine x = new HairLine();
         odds("all less than the ear", x, 0, 99, 6, 1, 1);
@@ -247,6 +252,7 @@ public final class GunEdgesTest {
         odds("no common divisor", x, 98, 104, 1, 2, 7);
     }
 
+    /** "0 to 200", "of n (1 to 6)": the greatest that can come of it is told whole. */
     private static void wrongGreatest() {
         HairLine x = new HairLine();
         x.set(2, 1);

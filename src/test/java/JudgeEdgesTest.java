@@ -94,6 +94,7 @@ public final class JudgeEdgesTest {
         lateIs("2 less", z, 1, 29, 29);
     }
 
+    /** "what is in it and that difference, give or take 1": at the ends of 0 to 50. */
     private static void knownAtTheSpansEnds() {
         int[][] want = {{51, 50, 50}, {50, 49, 50}, {49, 48, 50}, {1, 0, 2}, {0, 0, 1}, {-1, 0, 0}};
         for (int[] w : want) {
@@ -115,6 +116,7 @@ public final class JudgeEdgesTest {
         lateIs("it stays", x, 0, 19, 21);
     }
 
+    /** "what is in it": one hundredth is enough. */
     private static void downToOne() {
         HairLine x = new HairLine();
         x.known(0, 20, 0);
@@ -166,6 +168,7 @@ public final class JudgeEdgesTest {
         }
     }
 
+    /** "UNKNOWN; OUTSIDE": what was told stays. */
     private static void tellRefused() {
         HairLine x = told(7);
         due("-2", x.tell(0, -2), HairLine.OUTSIDE);

@@ -2,8 +2,9 @@ import java.util.ArrayList;
 import java.util.List;
 
 /**
- * All that can be asked of an object, as one row of answers. An object is used for 512 calls at most, so
- * each part of the row is asked of a twin that is made anew by the same calls (300 at most).
+ * What can be asked of an object, as one row of answers: of all that it holds something (the FILMS to COLUMN
+ * 39, the RULE by some records). An object is used for 512 calls at most, so each part of the row is asked of
+ * a twin that is made anew by the same calls (300 at most).
  */
 final class Look {
     private static final int PART = 200;

@@ -50,6 +50,7 @@ public final class OrderEdgesTest {
         due("no place by rule 1", x.place(0, 1), NONE);
     }
 
+    /** "the i-th RUNNER; NONE": of six there is no seventh. */
     private static void orderOfSix() {
         HairLine x = Scenes.withHairs(60, 50, 40, 30, 20, 10);
         due("how many", x.order(-1), 6);
@@ -162,6 +163,7 @@ public final class OrderEdgesTest {
         return x;
     }
 
+    /** "COLUMNS .. in which a RUNNER's LIMB COVERS the slit in a ROW": from none to 19. */
     private static void stretchOfNothing() {
         HairLine x = new HairLine();
         x.runner(-20, 1);
@@ -214,6 +216,7 @@ public final class OrderEdgesTest {
         due("its own torso hides it, too", x.stretch(1, 2), 9);
     }
 
+    /** "STRETCH. UNKNOWN." */
     private static void stretchRefused() {
         HairLine x = limb(-20, 1, 0, 0, 0);
         due("runner -1", x.stretch(-1, 0), HairLine.UNKNOWN);
@@ -264,6 +267,7 @@ public final class OrderEdgesTest {
         due("19 in 9: 2 at times", x.speeds(19, 9, 0), 2);
     }
 
+    /** "in just so many COLUMNS"; "NONE". */
     private static void speedsNone() {
         HairLine x = new HairLine();
         due("one more column than places", x.speeds(19, 20, 0), NONE);

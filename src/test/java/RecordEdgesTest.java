@@ -70,6 +70,7 @@ public final class RecordEdgesTest {
         due("still 30", x.told(2), 30);
     }
 
+    /** "FULL": until the signs go, or are the RULE's. */
     private static void roomAgain() {
         HairLine x = Scenes.saying(SEVEN + "666");
         due("full", x.say('t'), HairLine.FULL);
@@ -182,6 +183,7 @@ public final class RecordEdgesTest {
         faultIs("t<1;t<1", NONE);
     }
 
+    /** "up to 30 signs"; "the number of signs, if more must come". */
     private static void faultOfThirty() {
         faultIs(SEVEN + "666", NONE);
         faultIs(SEVEN + "66;", 30);
@@ -220,6 +222,7 @@ public final class RecordEdgesTest {
         due("it is the other", x.record(0, 0, 8, 0), 0);
     }
 
+    /** "NO: there is a FAULT": signs and RULE stay. */
     private static void ruleStaysAtAFault() {
         HairLine x = ruled("t<5");
         Scenes.sayAll(x, "t>5;q");
@@ -285,6 +288,7 @@ public final class RecordEdgesTest {
         }
     }
 
+    /** "perhaps -, then 1 to 4 digits": -9999 to 9999, and 0 by several texts. */
     private static void leastAndGreatestNumber() {
         due("nothing is more than 9999", ruled("h>9999").record(0, 0, 9999, 0), 0);
         due("nothing is less than -9999", ruled("h<-9999").record(0, 0, -9999, 0), 0);

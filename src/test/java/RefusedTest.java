@@ -1,7 +1,7 @@
 import java.util.ArrayList;
 import java.util.List;
 
-/** "Calls that are refused answer ..: They change nothing": all that can be asked is as it was. */
+/** "Calls that are refused .. change nothing": what Look asks is answered as it was. */
 public final class RefusedTest {
     private static final Check CHECK = new Check("refused");
     private static final int MOST_CALLS = 300;

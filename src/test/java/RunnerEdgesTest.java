@@ -293,6 +293,7 @@ public final class RunnerEdgesTest {
         due("the first is left", x.shows(1, 10, 0), 1);
     }
 
+    /** "1: the last lane is": the last of those that are there by now. */
     private static void lastLaneIsTheLastThatCame() {
         HairLine x = one(-10, 1, 0, 0, 0);
         due("alone", x.shows(1, 10, 0), 1);
@@ -336,6 +337,7 @@ public final class RunnerEdgesTest {
         due("row 5 is later now", x.of(0, 0), 25);
     }
 
+    /** "the first COLUMN with its TORSO": not with its LIMB. */
     private static void hairOfATorsoAlone() {
         HairLine x = one(-20, 1, 0, 0, 0);
         x.shape(0, 0, LIMB, -9, 9);
@@ -443,6 +445,7 @@ public final class RunnerEdgesTest {
         due("hidden", x.of(1, 5), 1);
     }
 
+    /** "no HAIR by either SIDE": nobody hides it, but it is on no FILM. */
     private static void hiddenBeyondTheFilm() {
         due("column 299", one(-299, 1, 0, 0, 0).of(0, 5), 0);
         due("column 300", one(-300, 1, 0, 0, 0).of(0, 5), 1);
@@ -488,6 +491,7 @@ public final class RunnerEdgesTest {
         }
     }
 
+    /** "two RUNNERS with TORSOS". */
     private static void movedWithTorsosAlone() {
         HairLine x = one(-20, 1, 0, 0, 0);
         x.set(0, 1);
@@ -502,6 +506,7 @@ public final class RunnerEdgesTest {
         due("the other's is gone", x.moved(-1), 0);
     }
 
+    /** "by LEANED .. as they do by TRUE": what the FILMS show does not matter. */
     private static void movedByLeanedNotByHairs() {
         HairLine x = one(-20, 1, 0, -2, 2);
         x.runner(-20, 1);

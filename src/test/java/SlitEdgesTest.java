@@ -62,6 +62,7 @@ public final class SlitEdgesTest {
         due("all rows", x.seen(64, 0), 63);
     }
 
+    /** "OUTSIDE; FULL." */
     private static void slitRefused() {
         HairLine x = new HairLine();
         due("rows 0", x.slit(0, 0), HairLine.OUTSIDE);
@@ -98,6 +99,7 @@ public final class SlitEdgesTest {
         due("both at once", x.seen(2, 0), 1);
     }
 
+    /** "by some SLITS (bits)": 0 are none of them. */
     private static void seenByNone() {
         HairLine x = new HairLine();
         due("no runners, no slits", x.seen(0, 0), 0);
@@ -150,6 +152,7 @@ public final class SlitEdgesTest {
         due("in no row of any side", x.seen(7, 0), 0);
     }
 
+    /** "the first COLUMN with its TORSO": there is none beyond the FILM. */
     private static void seenAtTheFilmsEnds() {
         HairLine x = Scenes.withHairs(0, 299, 300);
         x.slit(0, 63);
@@ -168,6 +171,7 @@ public final class SlitEdgesTest {
         due("over it before column 0; between two; back still at it", y.seen(1, 0), 4);
     }
 
+    /** "in one of their ROWS on their FILMS": each SLIT's ROWS on its own FILM. */
     private static void theirRowsOnTheirFilms() {
         HairLine x = new HairLine();
         for (int lane = 0; lane < 3; lane++) {
@@ -229,6 +233,7 @@ public final class SlitEdgesTest {
         }
     }
 
+    /** "SET: at most k SLITS": none, if none is there or none is needed. */
     private static void bestWithoutSlits() {
         HairLine x = new HairLine();
         due("nothing at all", x.best(8, 0), 0);
@@ -271,6 +276,7 @@ public final class SlitEdgesTest {
         due("3 rather than 5", sixInRows(7, 56, 56).best(2, 0), 3);
     }
 
+    /** "at most k (0 to 8)": of all eight. */
     private static void bestOfEight() {
         HairLine x = Scenes.withHairs(20, 20, 20, 20, 20, 20);
         for (int slit = 0; slit < 6; slit++) {
@@ -296,6 +302,7 @@ public final class SlitEdgesTest {
         }
     }
 
+    /** The same of an object that is full. */
     private static void toldOfAll() {
         HairLine x = Scenes.FULL.play();
         x.set(3, 1);
